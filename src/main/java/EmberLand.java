@@ -60,6 +60,7 @@ public final class EmberLand {
     private Evening spareEvening = new Evening();
 
     public EmberLand() {
+        // All rows are made here, once; no call makes another.
     }
 
     public int feed(long a, long b, long c) {
@@ -584,7 +585,6 @@ public final class EmberLand {
 
         int readGrate(Grate grate) {
             grate.forget();
-            fault = 0;
             tape.toFirst();
             // A line takes a sign at least, so there are no more lines than signs.
             for (int line = 0; line < SIGNS && tape.token != Tape.END; line++) {
@@ -597,7 +597,6 @@ public final class EmberLand {
 
         int readEvening(Evening evening, Grate grate) {
             evening.forget();
-            fault = 0;
             tape.toFirst();
             for (int line = 0; line <= LINES && tape.token != Tape.END; line++) {
                 if (!eveningLine(evening, grate)) {
@@ -893,11 +892,15 @@ public final class EmberLand {
             int top = 0;
             for (int i = 0; i < length && i < SIGNS; i++) {
                 int step = steps[i];
-                if (step >= LEFT && top < HEAP) {
-                    heap[top] = step >= 0 ? step : facts[-1 - step];
-                    top++;
-                } else if (step == NOT && top >= 1) {
-                    heap[top - 1] = heap[top - 1] == 0 ? 1 : 0;
+                if (step >= LEFT) {
+                    if (top < HEAP) {
+                        heap[top] = step >= 0 ? step : facts[-1 - step];
+                        top++;
+                    }
+                } else if (step == NOT) {
+                    if (top >= 1) {
+                        heap[top - 1] = heap[top - 1] == 0 ? 1 : 0;
+                    }
                 } else if (top >= 2) {
                     top--;
                     heap[top - 1] = join(step, heap[top - 1], heap[top]);
@@ -1232,7 +1235,7 @@ public final class EmberLand {
 
         int stackOf(int column) {
             int high = 0;
-            for (int c = column; isCell(c) && lies[c] != NONE; c += ROW) {
+            for (int c = Math.max(0, column); c < CELLS && lies[c] != NONE; c += ROW) {
                 high++;
             }
             return high;
@@ -1279,6 +1282,9 @@ public final class EmberLand {
 
     /** What can be gone back to: the fires ahead of the last 16 deeds, and the MARKS. */
     private static final class Past {
+        // 16 is a power of 2, so these bits of any number are a place among the kept.
+        private static final int RING = UNDONE - 1;
+
         private final Fire[] kept = new Fire[UNDONE];
         private final Fire[] markedFire = new Fire[MARKS];
         private final Told[] markedTold = new Told[MARKS];
@@ -1297,18 +1303,18 @@ public final class EmberLand {
         }
 
         void keep(Fire fire) {
-            kept[next].become(fire);
-            next = next < UNDONE - 1 ? next + 1 : 0;
+            kept[next & RING].become(fire);
+            next++;
             size = Math.min(UNDONE, size + 1);
         }
 
         boolean bringBack(Fire fire) {
-            if (size == 0) {
+            if (size <= 0) {
                 return false;
             }
-            next = next > 0 ? next - 1 : UNDONE - 1;
+            next--;
             size--;
-            fire.become(kept[next]);
+            fire.become(kept[next & RING]);
             return true;
         }
 
@@ -1348,7 +1354,7 @@ public final class EmberLand {
         int size;
 
         boolean add(int itsEmber, int itsHours, boolean isLit) {
-            if (size < 0 || size >= TOLD) {
+            if (size >= TOLD) {
                 return false;
             }
             ember[size] = itsEmber;
