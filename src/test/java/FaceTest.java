@@ -24,6 +24,8 @@ public final class FaceTest {
     "int out(int)", "int peak()", "int poke(int)", "int rests(int,int,int,int)", "int save(int)", "int spare(int)",
     "int stir(int)", "int touch(int)", "int tower()", "int warmest()", "int which()", "int winters(int,int,int)"};
 
+  private static final Set<String> LIBRARY = Set.of("Math.max", "Math.min", "Integer.bitCount", "System.arraycopy");
+
   public static void main(String[] args) throws IOException {
     face();
     members();
@@ -107,6 +109,10 @@ public final class FaceTest {
     Matcher made = Pattern.compile("\\bthrow ([^;]*);").matcher(code);
     while (made.find()) {
       CHECK.due("throw " + made.group(1), made.group(1).equals("new NoSuchElementException()"), true);
+    }
+    Matcher library = Pattern.compile("\\b(?:Math|Integer|Long|System|Arrays|String|Character)\\.\\w+").matcher(code);
+    while (library.find()) {
+      say("in rule 4: " + library.group(), LIBRARY.contains(library.group()));
     }
     methodLengths(code.split("\n"));
   }
